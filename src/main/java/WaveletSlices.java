@@ -1,12 +1,16 @@
 import java.util.Arrays;
 
+/**
+ * A coder for small grey pictures: lifting steps, bands, slices, and for each slice the finest quantiser at which it
+ * fits into its bytes. The words are those of the document, ../shared/DOC.md.
+ */
 public final class WaveletSlices {
     public static final int NONE = -1000;
 
     private static final int LOWEST = -128;
     private static final int HIGHEST = 127;
 
-    /** The most columns and rows, of the picture and of its coefficients alike: place (x, y) is held at y * SIDE + x. */
+    /** The most columns and rows, of the picture and of its coefficients: (x, y) is held at y * SIDE + x. */
     private static final int SIDE = 16;
     private static final int PLACES = SIDE * SIDE;
     private static final int MOST_BANDS = 8;

@@ -1,0 +1,145 @@
+import com.sun.management.ThreadMXBean;
+import java.io.IOException;
+import java.lang.management.ManagementFactory;
+import java.lang.reflect.Constructor;
+import java.lang.reflect.Field;
+import java.lang.reflect.Method;
+import java.lang.reflect.Modifier;
+import java.nio.file.Files;
+import java.nio.file.Path;
+import java.util.Arrays;
+import java.util.Set;
+import java.util.TreeSet;
+
+/** The public face is the document's and nothing more, the file keeps to LANGUAGE.md, and no call makes objects. */
+public final class FaceTest {
+    private static final String[] FACE = {
+        "boolean paint int int int int int", "boolean slope int int", "int sample int int",
+        "boolean filter int int int", "boolean slices int int boolean", "boolean ease int int", "boolean rate int int",
+        "int bands", "long coefficient int int", "int encode", "int byteAt int", "boolean poke int int", "int index int",
+        "int used int", "int nonzero int", "int decode", "int decoded int int", "long rebuilt int int", "int error",
+    };
+    private static final String[] RULED_OUT = {
+        "throw", "try", "catch", "synchronized", "assert", "var", "yield", "protected", "package", "native", "volatile",
+        "instanceof", "double", "float",
+    };
+    private static final Path FILE = Path.of("src/main/java/WaveletSlices.java");
+
+    private static Check check;
+
+    public static void main(String[] args) throws IOException {
+        check = new Check("FaceTest");
+        face();
+        classesInside();
+        file();
+        room();
+        check.end();
+    }
+
+    private static void face() {
+        Class<?> c = WaveletSlices.class;
+        check.yes("public and final", Modifier.isPublic(c.getModifiers()) && Modifier.isFinal(c.getModifiers()));
+        Set<String> open = new TreeSet<>();
+        Set<String> closed = new TreeSet<>();
+        for (Method m : c.getDeclaredMethods()) {
+            StringBuilder told = new StringBuilder(m.getReturnType() + " " + m.getName());
+            for (Class<?> p : m.getParameterTypes()) {
+                told.append(' ').append(p);
+            }
+            if (Modifier.isPrivate(m.getModifiers())) {
+                closed.add(m.getName());
+            } else {
+                check.yes(told + " is public", Modifier.isPublic(m.getModifiers()));
+                check.no(told + " is static", Modifier.isStatic(m.getModifiers()));
+                open.add(told.toString());
+            }
+        }
+        check.yes("methods " + open, open.equals(new TreeSet<>(Arrays.asList(FACE))));
+        for (String one : FACE) {
+            check.no("a private " + one, closed.contains(one.split(" ")[1]));
+        }
+        for (Field f : c.getDeclaredFields()) {
+            boolean none = f.getName().equals("NONE");
+            same(f.getName(), f.getModifiers() & (Modifier.PUBLIC | Modifier.PRIVATE), none ? Modifier.PUBLIC : Modifier.PRIVATE);
+        }
+        for (Constructor<?> k : c.getDeclaredConstructors()) {
+            check.yes("constructor", Arrays.equals(k.getParameterTypes(), new Class<?>[] {int.class, int.class}));
+        }
+    }
+
+    private static void same(String what, long got, long want) {
+        check.due(what, got, want);
+    }
+
+    private static void classesInside() {
+        Class<?>[] inside = WaveletSlices.class.getDeclaredClasses();
+        check.yes("at most twelve classes", inside.length < 12);
+        for (Class<?> c : inside) {
+            check.yes(c + " is static", Modifier.isStatic(c.getModifiers()));
+            check.no(c + " is public", Modifier.isPublic(c.getModifiers()));
+        }
+        Class<?>[] all = Arrays.copyOf(inside, inside.length + 1);
+        all[inside.length] = WaveletSlices.class;
+        for (Class<?> c : all) {
+            int fields = 0;
+            for (Field f : c.getDeclaredFields()) {
+                boolean isStatic = Modifier.isStatic(f.getModifiers());
+                check.no(f + " is static and not final", isStatic && !Modifier.isFinal(f.getModifiers()));
+                fields += isStatic ? 0 : 1;
+            }
+            check.yes(c + " has at most twenty fields", fields <= 20);
+            for (Method m : c.getDeclaredMethods()) {
+                check.yes(m + " has at most seven parameters", m.getParameterCount() <= 7);
+            }
+        }
+    }
+
+    private static void file() throws IOException {
+        String text = Files.readString(FILE);
+        String code = text.replaceAll("(?s)/\\*.*?\\*/", " ").replaceAll("//[^\n]*", " ");
+        Set<String> words = new TreeSet<>(Arrays.asList(code.split("\\W+")));
+        for (String word : RULED_OUT) {
+            check.no("the word " + word, words.contains(word));
+        }
+        check.no("a lambda", code.contains("->"));
+        check.no("a method reference", code.contains("::"));
+        check.no("a text", code.contains("\""));
+        for (String line : code.split("\n")) {
+            if (line.startsWith("import")) {
+                check.yes(line, line.equals("import java.util.Arrays;"));
+            }
+        }
+        for (String line : text.split("\n")) {
+            check.yes("a line of at most 120 characters: " + line, line.length() <= 120);
+        }
+    }
+
+    /** All calls of a run live in one room, so what a call makes is never given back. */
+    private static void room() {
+        ThreadMXBean bean = (ThreadMXBean) ManagementFactory.getThreadMXBean();
+        long me = Thread.currentThread().getId();
+        WaveletSlices x = new WaveletSlices(16, 16);
+        everyCall(x);
+        long before = bean.getThreadAllocatedBytes(me);
+        for (int i = 0; i < 500; i++) {
+            everyCall(x);
+        }
+        long made = bean.getThreadAllocatedBytes(me) - before;
+        check.yes("bytes made by 10000 calls: " + made, made < 100_000);
+    }
+
+    private static void everyCall(WaveletSlices x) {
+        x.filter(5, 2, 1);
+        x.slices(4, 4, true);
+        x.ease(0, 15);
+        x.rate(5, 2);
+        x.paint(1, 1, 9, 9, 100);
+        x.slope(-3, 5);
+        x.encode();
+        x.poke(3, 0);
+        x.decode();
+        long sum = x.sample(1, 1) + x.bands() + x.coefficient(2, 2) + x.byteAt(1) + x.index(2) + x.used(3) + x.nonzero(4)
+            + x.decoded(5, 5) + x.rebuilt(6, 6) + x.error();
+        check.no("a sum that can't be", sum == Long.MAX_VALUE);
+    }
+}
