@@ -294,8 +294,8 @@ public final class WaveletSlices {
         private int bandCount = 0;
         private final int[] left = new int[MOST_BANDS];
         private final int[] top = new int[MOST_BANDS];
-        private final int[] across = new int[MOST_BANDS];
-        private final int[] down = new int[MOST_BANDS];
+        private final int[] wide = new int[MOST_BANDS];
+        private final int[] high = new int[MOST_BANDS];
 
         /** Slice s has the entries first[s] .. first[s + 1] - 1 of placeOf and bandOf. */
         final int[] first = new int[MOST_SLICES + 1];
@@ -344,19 +344,19 @@ public final class WaveletSlices {
         private void addBand(int x, int y, int w, int h) {
             left[bandCount] = x;
             top[bandCount] = y;
-            across[bandCount] = w;
-            down[bandCount] = h;
+            wide[bandCount] = w;
+            high[bandCount] = h;
             bandCount++;
         }
 
         private int addPart(Setup setup, int s, int band, int count) {
             int i = s % setup.across;
             int j = s / setup.across;
-            int endX = across[band] * (i + 1) / setup.across;
-            int endY = down[band] * (j + 1) / setup.down;
+            int endX = wide[band] * (i + 1) / setup.across;
+            int endY = high[band] * (j + 1) / setup.down;
             int next = count;
-            for (int y = down[band] * j / setup.down; y < endY; y++) {
-                for (int x = across[band] * i / setup.across; x < endX; x++) {
+            for (int y = high[band] * j / setup.down; y < endY; y++) {
+                for (int x = wide[band] * i / setup.across; x < endX; x++) {
                     placeOf[next] = (top[band] + y) * SIDE + left[band] + x;
                     bandOf[next] = band;
                     next++;

@@ -16,8 +16,8 @@ public final class FaceTest {
     private static final String[] FACE = {
         "boolean paint int int int int int", "boolean slope int int", "int sample int int",
         "boolean filter int int int", "boolean slices int int boolean", "boolean ease int int", "boolean rate int int",
-        "int bands", "long coefficient int int", "int encode", "int byteAt int", "boolean poke int int", "int index int",
-        "int used int", "int nonzero int", "int decode", "int decoded int int", "long rebuilt int int", "int error",
+        "int bands", "long coefficient int int", "int encode", "int byteAt int", "boolean poke int int",
+        "int index int", "int used int", "int nonzero int", "int decode", "int decoded int int", "long rebuilt int int", "int error",
     };
     private static final String[] RULED_OUT = {
         "throw", "try", "catch", "synchronized", "assert", "var", "yield", "protected", "package", "native", "volatile",
@@ -60,15 +60,12 @@ public final class FaceTest {
         }
         for (Field f : c.getDeclaredFields()) {
             boolean none = f.getName().equals("NONE");
-            same(f.getName(), f.getModifiers() & (Modifier.PUBLIC | Modifier.PRIVATE), none ? Modifier.PUBLIC : Modifier.PRIVATE);
+            int seen = f.getModifiers() & (Modifier.PUBLIC | Modifier.PRIVATE);
+            check.due(f.getName(), seen, none ? Modifier.PUBLIC : Modifier.PRIVATE);
         }
         for (Constructor<?> k : c.getDeclaredConstructors()) {
             check.yes("constructor", Arrays.equals(k.getParameterTypes(), new Class<?>[] {int.class, int.class}));
         }
-    }
-
-    private static void same(String what, long got, long want) {
-        check.due(what, got, want);
     }
 
     private static void classesInside() {
@@ -138,8 +135,8 @@ public final class FaceTest {
         x.encode();
         x.poke(3, 0);
         x.decode();
-        long sum = x.sample(1, 1) + x.bands() + x.coefficient(2, 2) + x.byteAt(1) + x.index(2) + x.used(3) + x.nonzero(4)
-            + x.decoded(5, 5) + x.rebuilt(6, 6) + x.error();
+        long sum = x.sample(1, 1) + x.bands() + x.coefficient(2, 2) + x.byteAt(1) + x.index(2) + x.used(3)
+            + x.nonzero(4) + x.decoded(5, 5) + x.rebuilt(6, 6) + x.error();
         check.no("a sum that can't be", sum == Long.MAX_VALUE);
     }
 }

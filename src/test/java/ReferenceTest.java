@@ -95,7 +95,8 @@ public final class ReferenceTest {
         int w = some(1, 16);
         int h = some(1, 16);
         int v = some(-128, 127);
-        same("paint(" + i + ", " + j + ", " + w + ", " + h + ", " + v + ")", x.paint(i, j, w, h, v), y.paint(i, j, w, h, v));
+        String call = "paint(" + i + ", " + j + ", " + w + ", " + h + ", " + v + ")";
+        same(call, x.paint(i, j, w, h, v), y.paint(i, j, w, h, v));
     }
 
     private void setUp() {
