@@ -17,7 +17,8 @@ public final class FaceTest {
         "boolean paint int int int int int", "boolean slope int int", "int sample int int",
         "boolean filter int int int", "boolean slices int int boolean", "boolean ease int int", "boolean rate int int",
         "int bands", "long coefficient int int", "int encode", "int byteAt int", "boolean poke int int",
-        "int index int", "int used int", "int nonzero int", "int decode", "int decoded int int", "long rebuilt int int", "int error",
+        "int index int", "int used int", "int nonzero int", "int decode", "int decoded int int", "long rebuilt int int",
+        "int error",
     };
     private static final String[] RULED_OUT = {
         "throw", "try", "catch", "synchronized", "assert", "var", "yield", "protected", "package", "native", "volatile",
