@@ -1,6 +1,7 @@
 /** Counts the answers that are not the ones due, and prints each. */
 final class Check {
     private final String name;
+    private String sentence = "";
     private int asked = 0;
     private int wrong = 0;
 
@@ -8,11 +9,17 @@ final class Check {
         this.name = name;
     }
 
+    /** The words of the document that the next answers are about; they must stand there. */
+    void says(String words) {
+        sentence = " [" + words + "]";
+        yes("these words stand in the document", Document.says(words));
+    }
+
     void due(String what, long got, long want) {
         asked++;
         if (got != want) {
             wrong++;
-            System.out.println(name + ": " + what + " answered " + got + ", due is " + want);
+            System.out.println(name + sentence + ": " + what + " answered " + got + ", due is " + want);
         }
     }
 

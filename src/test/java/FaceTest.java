@@ -20,11 +20,13 @@ public final class FaceTest {
         "int index int", "int used int", "int nonzero int", "int decode", "int decoded int int", "long rebuilt int int",
         "int error",
     };
-    private static final String[] RULED_OUT = {
-        "throw", "try", "catch", "synchronized", "assert", "var", "yield", "protected", "package", "native", "volatile",
-        "instanceof", "double", "float",
-    };
+    private static final String[] RULED_OUT = {"throw", "try", "catch", "synchronized", "assert", "package"};
+    private static final String[] IMPORTS = {"Arrays", "ArrayList", "List", "Iterator"};
     private static final Path FILE = Path.of("src/main/java/WaveletSlices.java");
+    private static final int CALLS_OF_ALL = 19;
+
+    /** 7.3 million elements of four bytes at the least; this program makes no object in any call. */
+    private static final int BYTES_OF_A_RUN = 4 * 7_300_000;
 
     private static Check check;
 
@@ -88,6 +90,7 @@ public final class FaceTest {
             check.yes(c + " has at most twenty fields", fields <= 20);
             for (Method m : c.getDeclaredMethods()) {
                 check.yes(m + " has at most seven parameters", m.getParameterCount() <= 7);
+                check.no(m + " is a lambda", m.getName().startsWith("lambda$"));
             }
         }
     }
@@ -99,31 +102,35 @@ public final class FaceTest {
         for (String word : RULED_OUT) {
             check.no("the word " + word, words.contains(word));
         }
-        check.no("a lambda", code.contains("->"));
         check.no("a method reference", code.contains("::"));
-        check.no("a text", code.contains("\""));
-        for (String line : code.split("\n")) {
-            if (line.startsWith("import")) {
-                check.yes(line, line.equals("import java.util.Arrays;"));
-            }
+        check.no("a static initialiser block", code.matches("(?s).*\\bstatic\\s*\\{.*"));
+        Set<String> imports = new TreeSet<>();
+        for (String name : IMPORTS) {
+            imports.add("import java.util." + name + ";");
         }
-        for (String line : text.split("\n")) {
-            check.yes("a line of at most 120 characters: " + line, line.length() <= 120);
+        for (String line : code.split("\n")) {
+            check.no(line, line.startsWith("import") && !imports.contains(line.trim()));
         }
     }
 
-    /** All calls of a run live in one room, so what a call makes is never given back. */
+    /** All calls of a run live in one room of some 7.3 million fields and elements, and nothing is ever given back. */
     private static void room() {
         ThreadMXBean bean = (ThreadMXBean) ManagementFactory.getThreadMXBean();
         long me = Thread.currentThread().getId();
-        WaveletSlices x = new WaveletSlices(16, 16);
-        everyCall(x);
+        everyCall(new WaveletSlices(16, 16));
         long before = bean.getThreadAllocatedBytes(me);
-        for (int i = 0; i < 500; i++) {
+        WaveletSlices x = new WaveletSlices(16, 16);
+        for (int i = 0; i < Run.MOST_CALLS / CALLS_OF_ALL; i++) {
             everyCall(x);
         }
-        long made = bean.getThreadAllocatedBytes(me) - before;
-        check.yes("bytes made by 10000 calls: " + made, made < 100_000);
+        long mixed = bean.getThreadAllocatedBytes(me) - before;
+        check.yes("bytes made by a run of all calls: " + mixed, mixed < BYTES_OF_A_RUN);
+        WaveletSlices y = new WaveletSlices(16, 16);
+        for (int i = 0; i < Run.MOST_CALLS; i++) {
+            y.encode();
+        }
+        long writing = bean.getThreadAllocatedBytes(me) - before - mixed;
+        check.yes("bytes made by a run of writing: " + writing, writing < BYTES_OF_A_RUN);
     }
 
     private static void everyCall(WaveletSlices x) {

@@ -1,20 +1,5 @@
 /** Each promise of the document, with answers worked out by hand from its words. */
-public final class PromisesTest {
-    private static final int NONE = -1000;
-    private static final int[] WRONG = {Integer.MIN_VALUE, -1000, -129, 129, 1000, Integer.MAX_VALUE};
-
-    /** F and H of QUANTISER for r = 0 .. 31. */
-    private static final int[] F = {
-        4, 5, 6, 7, 8, 10, 11, 13, 16, 19, 23, 27, 32, 38, 45, 54,
-        64, 76, 91, 108, 128, 152, 181, 215, 256, 304, 362, 431, 512, 609, 724, 861,
-    };
-    private static final int[] H = {
-        1, 2, 3, 4, 4, 5, 6, 7, 8, 10, 12, 14, 16, 19, 23, 27,
-        32, 38, 46, 54, 64, 76, 91, 108, 128, 152, 181, 216, 256, 305, 362, 431,
-    };
-
-    private static Check check;
-
+public final class PromisesTest extends Scenes {
     public static void main(String[] args) {
         check = new Check("PromisesTest");
         promise1NewObject();
@@ -60,83 +45,6 @@ public final class PromisesTest {
         check.end();
     }
 
-    // ---- what the tests share
-
-    private static void same(String what, long got, long want) {
-        check.due(what, got, want);
-    }
-
-    /** A picture of one row, with no level: the coefficients are the samples. */
-    private static WaveletSlices row(int... samples) {
-        WaveletSlices x = new WaveletSlices(samples.length, 1);
-        for (int i = 0; i < samples.length; i++) {
-            x.paint(i, 0, 1, 1, samples[i]);
-        }
-        x.filter(3, 0, 0);
-        return x;
-    }
-
-    /** One sample, no level, and the 2 bytes that are the least: ROOM is 7. */
-    private static WaveletSlices tight(int sample) {
-        WaveletSlices x = row(sample);
-        x.rate(2, 1);
-        return x;
-    }
-
-    /** Puts a text of '0' and '1' into the stream from its first bit on; a ' ' means nothing. */
-    private static void pokeBits(WaveletSlices x, String text) {
-        String bits = text.replace(" ", "");
-        while (bits.length() % 8 != 0) {
-            bits += "0";
-        }
-        for (int k = 0; 8 * k < bits.length(); k++) {
-            check.yes("poke " + k, x.poke(k, Integer.parseInt(bits.substring(8 * k, 8 * k + 8), 2)));
-        }
-    }
-
-    private static void bytes(String what, WaveletSlices x, int... want) {
-        for (int k = 0; k < want.length; k++) {
-            same(what + ": byteAt(" + k + ")", x.byteAt(k), want[k]);
-        }
-    }
-
-    private static void coefficients(String what, WaveletSlices x, int... want) {
-        for (int i = 0; i < want.length; i++) {
-            same(what + ": coefficient(" + i + ", 0)", x.coefficient(i, 0), want[i]);
-        }
-    }
-
-    private static void noStream(String what, WaveletSlices x) {
-        same(what + ": byteAt", x.byteAt(0), -1);
-        same(what + ": index", x.index(0), -1);
-        same(what + ": used", x.used(0), -1);
-        same(what + ": nonzero", x.nonzero(0), -1);
-        check.no(what + ": poke", x.poke(0, 1));
-        same(what + ": decode", x.decode(), -1);
-    }
-
-    private static void noReadPicture(String what, WaveletSlices x) {
-        same(what + ": decoded", x.decoded(0, 0), NONE);
-        same(what + ": rebuilt", x.rebuilt(0, 0), 0);
-        same(what + ": error", x.error(), -1);
-    }
-
-    /** One sample 100 in 2 bytes, written and read: QUANTISER 16, number 6, value (6 * 64 + 32 + 2) >> 2. */
-    private static WaveletSlices hundred() {
-        WaveletSlices x = tight(100);
-        x.encode();
-        x.decode();
-        return x;
-    }
-
-    private static void stillHundred(String what, WaveletSlices x) {
-        bytes(what, x, 131, 44);
-        same(what + ": index", x.index(0), 16);
-        same(what + ": rebuilt", x.rebuilt(0, 0), 104);
-        same(what + ": decoded", x.decoded(0, 0), 104);
-        same(what + ": error", x.error(), 16);
-    }
-
     // ---- 1 to 4: the picture
 
     private static void promise1NewObject() {
@@ -145,7 +53,7 @@ public final class PromisesTest {
             {Integer.MIN_VALUE, Integer.MAX_VALUE, 1, 16}, {Integer.MAX_VALUE, Integer.MIN_VALUE, 16, 1},
         };
         for (int[] s : sizes) {
-            WaveletSlices x = new WaveletSlices(s[0], s[1]);
+            Run x = new Run(s[0], s[1]);
             String what = "new " + s[0] + " " + s[1];
             same(what, x.sample(0, 0), 0);
             same(what, x.sample(s[2] - 1, s[3] - 1), 0);
@@ -154,7 +62,7 @@ public final class PromisesTest {
             noStream(what, x);
             noReadPicture(what, x);
         }
-        WaveletSlices x = new WaveletSlices(2, 2);
+        Run x = new Run(2, 2);
         same("first bands", x.bands(), 4);
         x.paint(1, 0, 1, 2, 1);
         // Filter 0 over 0 2: O = 2 - ((0 + 0 + 1) >> 1), E = 0 + ((2 + 2 + 2) >> 2).
@@ -166,44 +74,44 @@ public final class PromisesTest {
     }
 
     private static void promise2Paint() {
-        WaveletSlices x = new WaveletSlices(5, 4);
-        check.yes("paint", x.paint(1, 2, 2, 1, 7));
+        Run x = new Run(5, 4);
+        yes("paint", x.paint(1, 2, 2, 1, 7));
         for (int j = 0; j < 4; j++) {
             for (int i = 0; i < 5; i++) {
                 same("painted", x.sample(i, j), j == 2 && (i == 1 || i == 2) ? 7 : 0);
             }
         }
-        check.yes("paint beyond", x.paint(3, 1, 16, 16, -128));
+        yes("paint beyond", x.paint(3, 1, 16, 16, -128));
         for (int j = 0; j < 4; j++) {
             same("painted beyond", x.sample(4, j), j >= 1 ? -128 : 0);
             same("painted beyond", x.sample(3, j), j >= 1 ? -128 : 0);
             same("left as it was", x.sample(2, j), j == 2 ? 7 : 0);
         }
-        check.yes("paint last", x.paint(4, 3, 1, 1, 127));
+        yes("paint last", x.paint(4, 3, 1, 1, 127));
         same("last", x.sample(4, 3), 127);
-        WaveletSlices y = hundred();
-        check.yes("paint", y.paint(0, 0, 1, 1, 100));
+        Run y = hundred();
+        yes("paint", y.paint(0, 0, 1, 1, 100));
         stillHundred("after paint", y);
     }
 
     private static void promise2PaintRefused() {
-        WaveletSlices x = new WaveletSlices(5, 4);
-        check.no("x", x.paint(5, 0, 1, 1, 1));
-        check.no("x", x.paint(-1, 0, 2, 2, 1));
-        check.no("y", x.paint(0, 4, 1, 1, 1));
-        check.no("y", x.paint(0, -1, 2, 2, 1));
-        check.no("w", x.paint(0, 0, 0, 1, 1));
-        check.no("w", x.paint(0, 0, 17, 1, 1));
-        check.no("h", x.paint(0, 0, 1, 0, 1));
-        check.no("h", x.paint(0, 0, 1, 17, 1));
-        check.no("v", x.paint(0, 0, 1, 1, 128));
-        check.no("v", x.paint(0, 0, 1, 1, -129));
+        Run x = new Run(5, 4);
+        no("x", x.paint(5, 0, 1, 1, 1));
+        no("x", x.paint(-1, 0, 2, 2, 1));
+        no("y", x.paint(0, 4, 1, 1, 1));
+        no("y", x.paint(0, -1, 2, 2, 1));
+        no("w", x.paint(0, 0, 0, 1, 1));
+        no("w", x.paint(0, 0, 17, 1, 1));
+        no("h", x.paint(0, 0, 1, 0, 1));
+        no("h", x.paint(0, 0, 1, 17, 1));
+        no("v", x.paint(0, 0, 1, 1, 128));
+        no("v", x.paint(0, 0, 1, 1, -129));
         for (int wrong : WRONG) {
-            check.no("wrong", x.paint(wrong, 0, 1, 1, 1));
-            check.no("wrong", x.paint(0, wrong, 1, 1, 1));
-            check.no("wrong", x.paint(0, 0, wrong, 1, 1));
-            check.no("wrong", x.paint(0, 0, 1, wrong, 1));
-            check.no("wrong", x.paint(0, 0, 1, 1, wrong));
+            no("wrong", x.paint(wrong, 0, 1, 1, 1));
+            no("wrong", x.paint(0, wrong, 1, 1, 1));
+            no("wrong", x.paint(0, 0, wrong, 1, 1));
+            no("wrong", x.paint(0, 0, 1, wrong, 1));
+            no("wrong", x.paint(0, 0, 1, 1, wrong));
         }
         for (int j = 0; j < 4; j++) {
             for (int i = 0; i < 5; i++) {
@@ -213,41 +121,41 @@ public final class PromisesTest {
     }
 
     private static void promise3Slope() {
-        WaveletSlices x = new WaveletSlices(3, 3);
+        Run x = new Run(3, 3);
         x.paint(0, 0, 3, 3, 10);
-        check.yes("slope", x.slope(2, -5));
+        yes("slope", x.slope(2, -5));
         same("slope", x.sample(0, 0), 10);
         same("slope", x.sample(2, 0), 14);
         same("slope", x.sample(0, 2), 0);
         same("slope", x.sample(2, 1), 9);
         for (int i = 0; i < 2; i++) {
-            check.yes("slope up", x.slope(32, 32));
+            yes("slope up", x.slope(32, 32));
         }
         // 10 + 2 * 2 - 5 * 2 + 128, and then 128 more.
         same("too much becomes 127", x.sample(2, 2), 127);
         same("0 times", x.sample(0, 0), 10);
         same("twice", x.sample(1, 0), 76);
         // It's the sum of both that is held to the bounds, and only in the end.
-        check.yes("slope down", x.slope(-32, -32));
+        yes("slope down", x.slope(-32, -32));
         same("from what it was held to", x.sample(2, 2), -1);
-        check.yes("slope down", x.slope(-32, -32));
+        yes("slope down", x.slope(-32, -32));
         same("too little becomes -128", x.sample(2, 2), -128);
-        check.no("across", x.slope(33, 0));
-        check.no("across", x.slope(-33, 0));
-        check.no("down", x.slope(0, 33));
-        check.no("down", x.slope(0, -33));
+        no("across", x.slope(33, 0));
+        no("across", x.slope(-33, 0));
+        no("down", x.slope(0, 33));
+        no("down", x.slope(0, -33));
         for (int wrong : WRONG) {
-            check.no("wrong", x.slope(wrong, 1));
-            check.no("wrong", x.slope(1, wrong));
+            no("wrong", x.slope(wrong, 1));
+            no("wrong", x.slope(1, wrong));
         }
         same("refused changes nothing", x.sample(2, 2), -128);
-        WaveletSlices y = hundred();
-        check.yes("slope", y.slope(32, 32));
+        Run y = hundred();
+        yes("slope", y.slope(32, 32));
         stillHundred("after slope", y);
     }
 
     private static void promise4Sample() {
-        WaveletSlices x = new WaveletSlices(2, 3);
+        Run x = new Run(2, 3);
         x.paint(1, 2, 1, 1, -77);
         same("sample", x.sample(1, 2), -77);
         same("sample", x.sample(0, 2), 0);
@@ -268,15 +176,15 @@ public final class PromisesTest {
         for (int kind = 0; kind <= 6; kind++) {
             for (int both = 0; both <= 2; both++) {
                 for (int wide = 0; wide <= 2; wide++) {
-                    WaveletSlices x = new WaveletSlices(4, 4);
+                    Run x = new Run(4, 4);
                     boolean fine = both + wide <= 3;
                     same("filter", x.filter(kind, both, wide) ? 1 : 0, fine ? 1 : 0);
                     same("bands after filter", x.bands(), fine ? 1 + wide + 3 * both : 4);
                 }
             }
         }
-        WaveletSlices x = hundred();
-        check.yes("filter", x.filter(3, 0, 0));
+        Run x = hundred();
+        yes("filter", x.filter(3, 0, 0));
         noStream("after filter", x);
         noReadPicture("after filter", x);
         x.ease(0, 3);
@@ -289,23 +197,23 @@ public final class PromisesTest {
     }
 
     private static void promise5FilterRefused() {
-        WaveletSlices x = tight(100);
+        Run x = tight(100);
         x.ease(0, 2);
         x.encode();
         x.decode();
-        check.no("kind", x.filter(7, 1, 0));
-        check.no("kind", x.filter(-1, 1, 0));
-        check.no("both", x.filter(0, 3, 0));
-        check.no("both", x.filter(0, -1, 2));
-        check.no("wide", x.filter(0, 0, 3));
-        check.no("wide", x.filter(0, 2, -1));
-        check.no("both and wide", x.filter(0, 2, 2));
+        no("kind", x.filter(7, 1, 0));
+        no("kind", x.filter(-1, 1, 0));
+        no("both", x.filter(0, 3, 0));
+        no("both", x.filter(0, -1, 2));
+        no("wide", x.filter(0, 0, 3));
+        no("wide", x.filter(0, 2, -1));
+        no("both and wide", x.filter(0, 2, 2));
         for (int wrong : WRONG) {
-            check.no("wrong", x.filter(wrong, 1, 1));
-            check.no("wrong", x.filter(0, wrong, 1));
-            check.no("wrong", x.filter(0, 1, wrong));
+            no("wrong", x.filter(wrong, 1, 1));
+            no("wrong", x.filter(0, wrong, 1));
+            no("wrong", x.filter(0, 1, wrong));
         }
-        check.no("sum beyond an int", x.filter(0, Integer.MAX_VALUE, Integer.MAX_VALUE));
+        no("sum beyond an int", x.filter(0, Integer.MAX_VALUE, Integer.MAX_VALUE));
         same("the levels stay", x.bands(), 1);
         same("the stream stays", x.index(0), 18);
         same("the read picture stays", x.decoded(0, 0), 104);
@@ -315,31 +223,31 @@ public final class PromisesTest {
 
     private static void promise6Slices() {
         // 4 columns in 3 parts: 0 .. 0, 1 .. 1, 2 .. 3.
-        WaveletSlices x = row(1, 2, 3, 4);
-        check.yes("slices", x.slices(3, 1, false));
+        Run x = row(1, 2, 3, 4);
+        yes("slices", x.slices(3, 1, false));
         same("3 slices", x.encode(), 3 * 128);
         same("nonzero 0", x.nonzero(0), 1);
         same("nonzero 1", x.nonzero(1), 1);
         same("nonzero 2", x.nonzero(2), 2);
         same("nonzero 3", x.nonzero(3), -1);
         // A row of 16 in 4 by 3 slices: rows 5 * j / 3 are 0, 1, 3, 5.
-        WaveletSlices y = new WaveletSlices(16, 5);
+        Run y = new Run(16, 5);
         y.paint(0, 0, 16, 5, 1);
         y.filter(5, 0, 0);
-        check.yes("slices", y.slices(4, 3, false));
+        yes("slices", y.slices(4, 3, false));
         same("12 slices", y.encode(), 12 * 128);
         for (int s = 0; s < 12; s++) {
             same("rows of slice " + s, y.nonzero(s), s < 4 ? 4 : 8);
         }
-        WaveletSlices z = hundred();
-        check.yes("slices", z.slices(1, 1, false));
+        Run z = hundred();
+        yes("slices", z.slices(1, 1, false));
         noStream("after slices", z);
         noReadPicture("after slices", z);
     }
 
     private static void promise6SlicesThatAreEmpty() {
-        WaveletSlices x = tight(1);
-        check.yes("slices", x.slices(4, 4, true));
+        Run x = tight(1);
+        yes("slices", x.slices(4, 4, true));
         same("16 slices", x.encode(), 32);
         for (int s = 0; s < 16; s++) {
             same("empty " + s, x.nonzero(s), s == 15 ? 1 : 0);
@@ -350,14 +258,14 @@ public final class PromisesTest {
     }
 
     private static void promise6SlicesRefused() {
-        WaveletSlices x = hundred();
-        check.no("across", x.slices(0, 1, false));
-        check.no("across", x.slices(5, 1, false));
-        check.no("down", x.slices(1, 0, false));
-        check.no("down", x.slices(1, 5, false));
+        Run x = hundred();
+        no("across", x.slices(0, 1, false));
+        no("across", x.slices(5, 1, false));
+        no("down", x.slices(1, 0, false));
+        no("down", x.slices(1, 5, false));
         for (int wrong : WRONG) {
-            check.no("wrong", x.slices(wrong, 2, true));
-            check.no("wrong", x.slices(2, wrong, true));
+            no("wrong", x.slices(wrong, 2, true));
+            no("wrong", x.slices(2, wrong, true));
         }
         stillHundred("after slices refused", x);
         same("one slice still", x.encode(), 2);
@@ -365,17 +273,17 @@ public final class PromisesTest {
 
     private static void promise7Ease() {
         for (int m = 0; m <= 15; m++) {
-            WaveletSlices x = tight(100);
-            check.yes("ease", x.ease(0, m));
+            Run x = tight(100);
+            yes("ease", x.ease(0, m));
             x.encode();
             same("index with ease " + m, x.index(0), 16 + m);
             x.decode();
             same("rebuilt with ease " + m, x.rebuilt(0, 0), 104);
         }
         // Only the one band is eased, and r is never less than 0: two bands of one coefficient each.
-        WaveletSlices x = new WaveletSlices(2, 1);
+        Run x = new Run(2, 1);
         x.filter(3, 0, 1);
-        check.yes("ease", x.ease(1, 5));
+        yes("ease", x.ease(1, 5));
         x.rate(16, 1);
         x.encode();
         // QUANTISER 8, LENGTH 8: two numbers 1, which are 0010 each.
@@ -387,34 +295,34 @@ public final class PromisesTest {
         x.decode();
         same("band 0, r is 4", x.rebuilt(0, 0), 3);
         same("band 1, r is 0", x.rebuilt(1, 0), 1);
-        check.yes("ease again", x.ease(1, 0));
+        yes("ease again", x.ease(1, 0));
         noStream("after ease", x);
         noReadPicture("after ease", x);
     }
 
     private static void promise7EaseRefused() {
-        WaveletSlices x = hundred();
-        check.no("band", x.ease(1, 0));
-        check.no("band", x.ease(-1, 0));
-        check.no("m", x.ease(0, 16));
-        check.no("m", x.ease(0, -1));
+        Run x = hundred();
+        no("band", x.ease(1, 0));
+        no("band", x.ease(-1, 0));
+        no("m", x.ease(0, 16));
+        no("m", x.ease(0, -1));
         for (int wrong : WRONG) {
-            check.no("wrong", x.ease(wrong, 1));
-            check.no("wrong", x.ease(0, wrong));
+            no("wrong", x.ease(wrong, 1));
+            no("wrong", x.ease(0, wrong));
         }
         stillHundred("after ease refused", x);
         x.encode();
         same("no ease still", x.index(0), 16);
         x.filter(0, 2, 1);
-        check.yes("the last band", x.ease(7, 15));
-        check.no("beyond it", x.ease(8, 1));
+        yes("the last band", x.ease(7, 15));
+        no("beyond it", x.ease(8, 1));
     }
 
     private static void promise8Rate() {
         // 5 / 2: the slices begin at bytes 0, 2, 5, 7 and the stream ends at 10.
-        WaveletSlices x = row(0, 0, 0, 0);
+        Run x = row(0, 0, 0, 0);
         x.slices(4, 1, false);
-        check.yes("rate", x.rate(5, 2));
+        yes("rate", x.rate(5, 2));
         same("bytes", x.encode(), 10);
         int[] begins = {0, 2, 5, 7};
         for (int s = 0; s < 4; s++) {
@@ -428,46 +336,46 @@ public final class PromisesTest {
         x.poke(2, 7);
         x.poke(3, 192);
         same("ROOM of 3 bytes", x.used(1), 14);
-        check.yes("least", x.rate(2, 1));
+        yes("least", x.rate(2, 1));
         noStream("after rate", x);
         same("least", x.encode(), 8);
-        check.yes("least", x.rate(128, 64));
+        yes("least", x.rate(128, 64));
         same("least", x.encode(), 8);
-        check.yes("most", x.rate(8192, 64));
+        yes("most", x.rate(8192, 64));
         same("most", x.encode(), 512);
-        check.yes("most", x.rate(128, 1));
+        yes("most", x.rate(128, 1));
         same("most", x.encode(), 512);
         x.poke(0, 7);
         x.poke(1, 255);
         same("ROOM of 128 bytes", x.used(0), 1019 - 10);
-        WaveletSlices y = hundred();
-        check.yes("rate", y.rate(2, 1));
+        Run y = hundred();
+        yes("rate", y.rate(2, 1));
         noStream("after rate", y);
         noReadPicture("after rate", y);
     }
 
     private static void promise8RateRefused() {
-        WaveletSlices x = hundred();
-        check.no("den", x.rate(2, 0));
-        check.no("den", x.rate(0, 0));
-        check.no("den", x.rate(-2, -1));
-        check.no("den", x.rate(200, 65));
-        check.no("num", x.rate(1, 1));
-        check.no("num", x.rate(129, 1));
-        check.no("num", x.rate(127, 64));
-        check.no("num", x.rate(8193, 64));
-        check.no("2 * den beyond an int", x.rate(5, 1 << 30));
-        check.no("2 * den beyond an int", x.rate(0, Integer.MIN_VALUE));
+        Run x = hundred();
+        no("den", x.rate(2, 0));
+        no("den", x.rate(0, 0));
+        no("den", x.rate(-2, -1));
+        no("den", x.rate(200, 65));
+        no("num", x.rate(1, 1));
+        no("num", x.rate(129, 1));
+        no("num", x.rate(127, 64));
+        no("num", x.rate(8193, 64));
+        no("2 * den beyond an int", x.rate(5, 1 << 30));
+        no("2 * den beyond an int", x.rate(0, Integer.MIN_VALUE));
         for (int wrong : WRONG) {
-            check.no("wrong", x.rate(wrong, 1));
-            check.no("wrong", x.rate(64, wrong));
+            no("wrong", x.rate(wrong, 1));
+            no("wrong", x.rate(64, wrong));
         }
         stillHundred("after rate refused", x);
         same("2 bytes still", x.encode(), 2);
     }
 
     private static void promise9Bands() {
-        WaveletSlices x = new WaveletSlices(1, 1);
+        Run x = new Run(1, 1);
         same("bands", x.bands(), 4);
         int[][] all = {{0, 0, 1}, {0, 1, 2}, {0, 2, 3}, {1, 0, 4}, {1, 1, 5}, {1, 2, 6}, {2, 0, 7}, {2, 1, 8}};
         for (int[] one : all) {
@@ -483,14 +391,14 @@ public final class PromisesTest {
     private static void promise10CoefficientOfTwo() {
         int[][] due = {{14, -12}, {14, -12}, {14, -12}, {7, -6}, {14, -12}, {14, -3}, {18, -9}};
         for (int kind = 0; kind <= 6; kind++) {
-            WaveletSlices x = row(10, 4);
+            Run x = row(10, 4);
             x.filter(kind, 0, 1);
             coefficients("filter " + kind + " of 10 4", x, due[kind]);
         }
     }
 
     private static void promise10CoefficientOfFarNeighbours() {
-        WaveletSlices even = new WaveletSlices(16, 1);
+        Run even = new Run(16, 1);
         even.paint(8, 0, 1, 1, 32);
         even.filter(0, 0, 1);
         coefficients("filter 0", even, 0, 0, 0, -8, 48, -8, 0, 0, 0, 0, 0, -32, -32, 0, 0, 0);
@@ -505,7 +413,7 @@ public final class PromisesTest {
         even.paint(8, 0, 1, 1, 127);
         even.filter(6, 0, 1);
         coefficients("filter 6", even, 0, 0, 8, -25, 189, -25, 8, 0, 0, 0, 19, -122, -122, 19, 0, 0);
-        WaveletSlices odd = new WaveletSlices(16, 1);
+        Run odd = new Run(16, 1);
         odd.paint(7, 0, 1, 1, 64);
         odd.filter(5, 0, 1);
         coefficients("filter 5", odd, -2, 5, -11, 40, 40, -11, 5, -2);
@@ -513,7 +421,7 @@ public final class PromisesTest {
     }
 
     private static void promise10CoefficientOrder() {
-        WaveletSlices x = new WaveletSlices(2, 2);
+        Run x = new Run(2, 2);
         x.paint(0, 0, 1, 1, 1);
         x.paint(1, 0, 1, 1, 2);
         x.paint(0, 1, 1, 1, 4);
@@ -531,7 +439,7 @@ public final class PromisesTest {
     }
 
     private static void promise10CoefficientLevels() {
-        WaveletSlices x = new WaveletSlices(8, 4);
+        Run x = new Run(8, 4);
         x.paint(0, 0, 8, 4, 3);
         int[] gains = {1, 1, 1, 0, 1};
         for (int kind = 0; kind <= 4; kind++) {
@@ -541,7 +449,7 @@ public final class PromisesTest {
             same("an even picture", x.coefficient(7, 3), 0);
         }
         // 8 columns 0 .. 7 by filter 3: O is 1, E is 2k + 1; then O is 2, E is 4k + 2; WIDE then acts on one row.
-        WaveletSlices y = row(0, 1, 2, 3, 4, 5, 6, 7);
+        Run y = row(0, 1, 2, 3, 4, 5, 6, 7);
         y.filter(3, 0, 2);
         coefficients("two levels WIDE", y, 2, 6, 2, 2, 1, 1, 1, 1);
         y.filter(3, 1, 2);
@@ -553,7 +461,7 @@ public final class PromisesTest {
 
     /** A filter with fewer levels may leave fewer coefficients: what stood beyond them is there no more. */
     private static void promise10And19FewerCoefficients() {
-        WaveletSlices x = new WaveletSlices(5, 5);
+        Run x = new Run(5, 5);
         x.slope(1, 1);
         x.paint(3, 3, 1, 1, 9);
         for (int kind = 0; kind <= 6; kind++) {
@@ -577,7 +485,7 @@ public final class PromisesTest {
 
     private static void promise10CoefficientEdges() {
         // 3 columns become 4 (1 2 5 5), one row stays one.
-        WaveletSlices x = row(1, 2, 5);
+        Run x = row(1, 2, 5);
         x.filter(3, 0, 1);
         coefficients("nearest column", x, 2, 5, 1, 0);
         same("no such column", x.coefficient(4, 0), 0);
@@ -591,7 +499,7 @@ public final class PromisesTest {
         x.filter(3, 0, 0);
         coefficients("no level", x, 1, 2, 5, 0);
         // One sample becomes 8 columns and 4 rows.
-        WaveletSlices y = new WaveletSlices(1, 1);
+        Run y = new Run(1, 1);
         y.paint(0, 0, 1, 1, -9);
         y.filter(4, 2, 1);
         same("one sample", y.coefficient(0, 0), -72);
@@ -606,12 +514,12 @@ public final class PromisesTest {
 
     private static void promise11Encode() {
         // q 16: 10000; LENGTH 6: 0110; 6 + 1 is 111: 01 01 1, and a 0 for v > 0.
-        WaveletSlices x = tight(100);
+        Run x = tight(100);
         same("bytes", x.encode(), 2);
         bytes("100", x, 131, 44);
         same("used", x.used(0), 6);
         // The finest quantiser, where there's room: 100 + 1 is 1100101: 01 00 00 01 00 01 1 0, LENGTH 14.
-        WaveletSlices y = row(100);
+        Run y = row(100);
         same("bytes", y.encode(), 128);
         // 00000 0000001110 01000001000110
         bytes("100 in 128 bytes", y, 0, 28, 130, 48, 0);
@@ -628,7 +536,7 @@ public final class PromisesTest {
 
     private static void promise11EncodeLeavesOutLastOnes() {
         // r 7: F is 13, 400 / 13 is 30; 31 is 11111: 01 01 01 01 1, and a 1 for v < 0: 7 bits up to the last 0.
-        WaveletSlices x = tight(-100);
+        Run x = tight(-100);
         x.encode();
         same("index", x.index(0), 7);
         same("used", x.used(0), 7);
@@ -636,7 +544,7 @@ public final class PromisesTest {
         x.decode();
         same("rebuilt", x.rebuilt(0, 0), -99);
         // 0010 1 1 0011 1: the last 0 is bit 8 of 11, so 00000 0000001000 00101100 is what is written.
-        WaveletSlices y = row(1, 0, 0, -1, 0);
+        Run y = row(1, 0, 0, -1, 0);
         y.encode();
         same("used", y.used(0), 8);
         bytes("1 0 0 -1 0", y, 0, 16, 0x58, 0);
@@ -646,7 +554,7 @@ public final class PromisesTest {
 
     private static void promise11EncodeCutsOff() {
         // r 16 at the most: the number is 7 or more; 8 is 1000: 00 00 00 1, and a 0: one bit too many.
-        WaveletSlices x = tight(127);
+        Run x = tight(127);
         x.ease(0, 15);
         same("bytes", x.encode(), 2);
         bytes("127", x, 251, 129);
@@ -661,7 +569,7 @@ public final class PromisesTest {
 
     private static void promise11EncodePredictsFromReading() {
         // Slice 0 is cut off and read as -120, so slice 1 has 247: the number 15, 16 is 10000: cut off too.
-        WaveletSlices x = row(127, 127);
+        Run x = row(127, 127);
         x.rate(2, 1);
         x.slices(2, 1, true);
         x.ease(0, 15);
@@ -672,7 +580,7 @@ public final class PromisesTest {
         same("rebuilt 0", x.rebuilt(0, 0), -120);
         same("rebuilt 1", x.rebuilt(1, 0), -384);
         // In one slice the prediction is from the values: 100 as 104 (r 16), then 100 - 104 as 0.
-        WaveletSlices y = row(100, 100);
+        Run y = row(100, 100);
         y.rate(2, 1);
         y.slices(1, 1, true);
         y.encode();
@@ -691,7 +599,7 @@ public final class PromisesTest {
     private static void promise11EncodeOrder() {
         // Bands by filter 3, BOTH and WIDE over 4 by 2: 0 at (0, 0), 1 at (1, 0), 2 at (2, 0), (3, 0), 3 at (0, 1),
         // (1, 1), 4 at (2, 1), (3, 1). The numbers 1 2 3 4 5 6 7 8 are poked in, and stand there in that order.
-        WaveletSlices x = new WaveletSlices(4, 2);
+        Run x = new Run(4, 2);
         x.filter(3, 1, 1);
         x.encode();
         pokeBits(x, "00000 0000110000 0010 0110 000010 000110 010010 010110 00000010 00000110");
@@ -704,15 +612,15 @@ public final class PromisesTest {
 
     private static void promise11EncodeTakesLeastQuantiser() {
         // Not every quantiser above one that fits does: -100 fits at 7 (-30, 7 bits), not at 8 (-25, 26 is 11010).
-        WaveletSlices x = tight(-100);
+        Run x = tight(-100);
         x.encode();
         same("least", x.index(0), 7);
         // -64: at r 0 65 is 1000001, k is 6; r 1: 51, 52 is 110100; r 2: 42; r 3: 36; r 4: 32, 33 is 100001, k is 5;
         // r 5: 25, 26 is 11010, 8 bits; r 6: 23, 24 is 11000; r 7: 19, 20; r 8: 16, 17 is 10001: 7 bits.
-        WaveletSlices y = tight(-64);
+        Run y = tight(-64);
         y.encode();
         same("least", y.index(0), 8);
-        WaveletSlices z = tight(0);
+        Run z = tight(0);
         z.encode();
         same("least", z.index(0), 0);
         same("nothing used", z.used(0), 0);
@@ -721,7 +629,7 @@ public final class PromisesTest {
     // ---- 12 to 16: the bytes and the slices
 
     private static void promise12ByteAt() {
-        WaveletSlices x = tight(100);
+        Run x = tight(100);
         same("no stream", x.byteAt(0), -1);
         x.encode();
         same("first", x.byteAt(0), 131);
@@ -731,7 +639,7 @@ public final class PromisesTest {
         for (int wrong : WRONG) {
             same("wrong", x.byteAt(wrong), -1);
         }
-        WaveletSlices y = new WaveletSlices(16, 16);
+        Run y = new Run(16, 16);
         y.slices(4, 4, false);
         y.encode();
         same("last of all", y.byteAt(2047), 0);
@@ -739,22 +647,22 @@ public final class PromisesTest {
     }
 
     private static void promise13Poke() {
-        WaveletSlices x = hundred();
-        check.yes("poke", x.poke(1, 255));
+        Run x = hundred();
+        yes("poke", x.poke(1, 255));
         same("poked", x.byteAt(1), 255);
         same("the other", x.byteAt(0), 131);
-        check.yes("poke", x.poke(0, 0));
+        yes("poke", x.poke(0, 0));
         same("poked", x.byteAt(0), 0);
         same("the read picture stays", x.decoded(0, 0), 104);
         same("the rebuilt one too", x.rebuilt(0, 0), 104);
         same("error", x.error(), 16);
-        check.no("b", x.poke(0, 256));
-        check.no("b", x.poke(0, -1));
-        check.no("k", x.poke(2, 1));
-        check.no("k", x.poke(-1, 1));
+        no("b", x.poke(0, 256));
+        no("b", x.poke(0, -1));
+        no("k", x.poke(2, 1));
+        no("k", x.poke(-1, 1));
         for (int wrong : WRONG) {
-            check.no("wrong", x.poke(wrong, 1));
-            check.no("wrong", x.poke(0, wrong == 129 ? 257 : wrong));
+            no("wrong", x.poke(wrong, 1));
+            no("wrong", x.poke(0, wrong == 129 ? 257 : wrong));
         }
         same("refused changes nothing", x.byteAt(0), 0);
         same("refused changes nothing", x.byteAt(1), 255);
@@ -763,7 +671,7 @@ public final class PromisesTest {
     }
 
     private static void promise14Index() {
-        WaveletSlices x = tight(0);
+        Run x = tight(0);
         same("no stream", x.index(0), -1);
         x.encode();
         for (int q = 0; q < 32; q++) {
@@ -778,7 +686,7 @@ public final class PromisesTest {
     }
 
     private static void promise15Used() {
-        WaveletSlices x = tight(0);
+        Run x = tight(0);
         same("no stream", x.used(0), -1);
         x.encode();
         for (int length = 0; length < 16; length++) {
@@ -794,7 +702,7 @@ public final class PromisesTest {
     }
 
     private static void promise16Nonzero() {
-        WaveletSlices x = row(0, 0, 0, 0, 0);
+        Run x = row(0, 0, 0, 0, 0);
         x.rate(3, 1);
         same("no stream", x.nonzero(0), -1);
         x.encode();
@@ -819,7 +727,7 @@ public final class PromisesTest {
     // ---- 17 to 20: the read picture
 
     private static void promise17Decode() {
-        WaveletSlices x = tight(100);
+        Run x = tight(100);
         same("no stream", x.decode(), -1);
         noReadPicture("no stream", x);
         x.encode();
@@ -829,7 +737,7 @@ public final class PromisesTest {
         x.paint(0, 0, 1, 1, 104);
         same("as the picture is now", x.decode(), 0);
         for (int kind = 0; kind <= 6; kind++) {
-            WaveletSlices y = new WaveletSlices(13, 11);
+            Run y = new Run(13, 11);
             y.slope(11, -7);
             y.paint(3, 2, 5, 4, -128);
             y.paint(6, 5, 1, 6, 127);
@@ -844,7 +752,7 @@ public final class PromisesTest {
     }
 
     private static void promise17DecodeQuantisers() {
-        WaveletSlices x = tight(0);
+        Run x = tight(0);
         x.encode();
         for (int q = 0; q < 32; q++) {
             String head = Integer.toBinaryString(32 + q).substring(1);
@@ -861,7 +769,7 @@ public final class PromisesTest {
     }
 
     private static void promise17DecodeBiggestNumbers() {
-        WaveletSlices x = row(0, 0, 0);
+        Run x = row(0, 0, 0);
         x.rate(24, 1);
         x.encode();
         String zeros = "00".repeat(26);
@@ -893,7 +801,7 @@ public final class PromisesTest {
 
     private static void promise17DecodePrediction() {
         // 2 by 2, no level: 1, 2, 3, -9 in the stream: 1; 1 + 2; 1 + 3; (3 + 4 + 1 + 1) / 3 - 9.
-        WaveletSlices x = new WaveletSlices(2, 2);
+        Run x = new Run(2, 2);
         x.filter(3, 0, 0);
         x.slices(1, 1, true);
         x.rate(16, 1);
@@ -919,7 +827,7 @@ public final class PromisesTest {
         same("band 1", x.rebuilt(1, 0), 1);
         same("band 1", x.rebuilt(1, 1), 1);
         // Held to 2^27 with the prediction too: 2^27, then 2^27 + 1, then 2^27 - 1.
-        WaveletSlices y = row(0, 0, 0);
+        Run y = row(0, 0, 0);
         y.slices(1, 1, true);
         y.rate(16, 1);
         y.encode();
@@ -932,7 +840,7 @@ public final class PromisesTest {
     }
 
     private static void promise18Decoded() {
-        WaveletSlices x = new WaveletSlices(3, 2);
+        Run x = new Run(3, 2);
         x.paint(2, 1, 1, 1, 55);
         same("no read picture", x.decoded(2, 1), NONE);
         x.encode();
@@ -951,7 +859,7 @@ public final class PromisesTest {
     }
 
     private static void promise19Rebuilt() {
-        WaveletSlices x = row(1, 2, 5);
+        Run x = row(1, 2, 5);
         x.filter(3, 0, 1);
         x.encode();
         same("no read picture", x.rebuilt(0, 0), 0);
@@ -981,7 +889,7 @@ public final class PromisesTest {
     }
 
     private static void promise20Error() {
-        WaveletSlices x = row(10, 20, 30);
+        Run x = row(10, 20, 30);
         same("no read picture", x.error(), -1);
         x.encode();
         same("no read picture", x.error(), -1);
@@ -990,7 +898,7 @@ public final class PromisesTest {
         x.paint(0, 0, 1, 1, 13);
         x.paint(2, 0, 1, 1, -128);
         same("as the picture is now", x.error(), 9 + 158 * 158);
-        WaveletSlices y = new WaveletSlices(16, 16);
+        Run y = new Run(16, 16);
         y.paint(0, 0, 16, 16, -128);
         y.filter(3, 0, 0);
         y.slices(4, 4, false);
@@ -1002,7 +910,7 @@ public final class PromisesTest {
     }
 
     private static void readPictureOutlivesPictureAndStream() {
-        WaveletSlices x = hundred();
+        Run x = hundred();
         x.paint(0, 0, 1, 1, -50);
         x.encode();
         x.coefficient(0, 0);

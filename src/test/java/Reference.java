@@ -225,14 +225,20 @@ final class Reference {
     }
 
     long[][] coefficients() {
-        int w = columns();
-        int h = rows();
-        long[][] a = new long[h][w];
-        for (int y = 0; y < h; y++) {
-            for (int x = 0; x < w; x++) {
+        long[][] a = new long[rows()][columns()];
+        for (int y = 0; y < rows(); y++) {
+            for (int x = 0; x < columns(); x++) {
                 a[y][x] = picture[(int) clamp(y, 0, height - 1)][(int) clamp(x, 0, width - 1)];
             }
         }
+        return coefficientsOf(a);
+    }
+
+    /** Of any numbers at the places (0, 0) .. (P - 1, Q - 1). */
+    long[][] coefficientsOf(long[][] numbers) {
+        long[][] a = numbers;
+        int w = columns();
+        int h = rows();
         for (int i = 0; i < d; i++) {
             a = inRegion(a, w, h, multiplied(region(a, w, h)));
             a = inRegion(a, w, h, splitRows(region(a, w, h)));

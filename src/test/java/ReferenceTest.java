@@ -3,6 +3,9 @@ import java.util.Random;
 /** Runs of calls, drawn from fixed seeds, whose every answer must be the one of the Reference. */
 public final class ReferenceTest {
     private static final int RUNS = 1500;
+
+    /** A step of a run is never more calls than this. */
+    private static final int MOST_AT_ONCE = 12;
     private static final int[] ODD = {
         Integer.MIN_VALUE, Integer.MAX_VALUE, -1, 0, 1, 16, 17, 127, 128, -128, -129, 255, 256, 1 << 30, -1000
     };
@@ -10,7 +13,7 @@ public final class ReferenceTest {
     private final Check check;
     private final Random random;
     private final StringBuilder told = new StringBuilder();
-    private WaveletSlices x;
+    private Run x;
     private Reference y;
 
     private ReferenceTest(Check check, long seed) {
@@ -22,7 +25,7 @@ public final class ReferenceTest {
         Check check = new Check("ReferenceTest");
         for (int seed = 0; seed < RUNS && check.wrong() == 0; seed++) {
             ReferenceTest run = new ReferenceTest(check, seed);
-            run.calls(seed % 3 == 0 ? 25 : 60);
+            run.calls(seed % 3 == 0 ? 25 : 70);
             if (check.wrong() > 0) {
                 System.out.println("in the run of seed " + seed + ":" + run.told);
             }
@@ -49,12 +52,12 @@ public final class ReferenceTest {
         int w = some(1, 16);
         int h = some(1, 16);
         told.append(" new(").append(w).append(", ").append(h).append(')');
-        x = new WaveletSlices(w, h);
+        x = new Run(w, h);
         y = new Reference(w, h);
-        for (int i = 0; i < count && check.wrong() == 0; i++) {
+        for (int i = 0; i < count && x.callsLeft() >= MOST_AT_ONCE && check.wrong() == 0; i++) {
             oneCall();
         }
-        everything();
+        askOn();
     }
 
     private void same(String call, long got, long want) {
@@ -134,7 +137,7 @@ public final class ReferenceTest {
     private void poke() {
         int size = y.stream == null ? 1 : y.stream.length() / 8;
         int first = some(0, size - 1);
-        int count = random.nextInt(4) == 0 ? 1 + random.nextInt(12) : 1;
+        int count = random.nextInt(4) == 0 ? 1 + random.nextInt(MOST_AT_ONCE) : 1;
         int b = random.nextInt(3) == 0 ? 0 : some(0, 255);
         for (int i = 0; i < count; i++) {
             int k = first + i;
@@ -159,25 +162,23 @@ public final class ReferenceTest {
         same("error()", x.error(), y.error());
     }
 
-    private void everything() {
-        for (int s = -1; s <= y.across * y.down; s++) {
+    /** Asks all over the place until the run is at its end. */
+    private void askOn() {
+        long[][] c = y.coefficients();
+        while (x.callsLeft() >= 8) {
+            int i = random.nextInt(c[0].length + 2) - 1;
+            int j = random.nextInt(c.length + 2) - 1;
+            boolean there = j >= 0 && j < c.length && i >= 0 && i < c[0].length;
+            same("coefficient(" + i + ", " + j + ")", x.coefficient(i, j), there ? c[j][i] : 0);
+            same("rebuilt(" + i + ", " + j + ")", x.rebuilt(i, j), y.rebuilt(i, j));
+            same("decoded(" + i + ", " + j + ")", x.decoded(i, j), y.decoded(i, j));
+            same("sample(" + i + ", " + j + ")", x.sample(i, j), y.sample(i, j));
+            int k = random.nextInt(y.stream == null ? 3 : y.stream.length() / 8 + 2) - 1;
+            same("byteAt(" + k + ")", x.byteAt(k), y.byteAt(k));
+            int s = random.nextInt(y.across * y.down + 2) - 1;
             same("index(" + s + ")", x.index(s), y.index(s));
             same("used(" + s + ")", x.used(s), y.used(s));
             same("nonzero(" + s + ")", x.nonzero(s), y.nonzero(s));
         }
-        for (int k = -1; y.stream != null && k <= y.stream.length() / 8; k++) {
-            same("byteAt(" + k + ")", x.byteAt(k), y.byteAt(k));
-        }
-        long[][] c = y.coefficients();
-        for (int j = -1; j <= 16; j++) {
-            for (int i = -1; i <= 16; i++) {
-                boolean there = j >= 0 && j < c.length && i >= 0 && i < c[0].length;
-                same("coefficient(" + i + ", " + j + ")", x.coefficient(i, j), there ? c[j][i] : 0);
-                same("sample(" + i + ", " + j + ")", x.sample(i, j), y.sample(i, j));
-                same("decoded(" + i + ", " + j + ")", x.decoded(i, j), y.decoded(i, j));
-                same("rebuilt(" + i + ", " + j + ")", x.rebuilt(i, j), y.rebuilt(i, j));
-            }
-        }
-        same("error()", x.error(), y.error());
     }
 }
