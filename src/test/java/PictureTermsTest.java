@@ -54,6 +54,7 @@ public final class PictureTermsTest extends Scenes {
         shiftsOfBigNumbers();
         quotientsRoundDown();
         numbersAreExact();
+        sumsAreExact();
         setupAtFirst();
         neighboursBeforeTheFirst();
         neighboursAfterTheLast();
@@ -234,6 +235,47 @@ public final class PictureTermsTest extends Scenes {
                 x.decode();
                 same("filter " + kind + " of big numbers", x.decoded(0, 0), 77);
             }
+        }
+    }
+
+    /** With all coefficients as far off as they can be, the sums of the joins go beyond 2^31 on the way back. */
+    private static void sumsAreExact() {
+        says("numbers are exact (none gets beyond 2^62)");
+        for (int kind = 0; kind <= 6; kind++) {
+            for (int[] level : LEVELS) {
+                for (int target = 0; target < 32; target += 5) {
+                    Reference y = new Reference(8, 4);
+                    y.filter(kind, level[0], level[1]);
+                    y.slices(2, 2, false);
+                    long[][] c = adding(y, target);
+                    decodesTo("filter " + kind + ", most at " + target, y, c);
+                }
+            }
+        }
+    }
+
+    /** Coefficients 2^27 - 2 or minus that, with signs by which all of them add to what comes out at one place. */
+    private static long[][] adding(Reference y, int target) {
+        long[][] out = new long[4][8];
+        for (int i = 0; i < 32; i++) {
+            long[][] one = new long[4][8];
+            one[i / 8][i % 8] = 1 << 20;
+            boolean minus = y.joined(one)[target / 8][target % 8] < 0;
+            out[i / 8][i % 8] = minus ? -134217726 : 134217726;
+        }
+        return out;
+    }
+
+    private static void decodesTo(String what, Reference y, long[][] c) {
+        Run x = new Run(8, 4);
+        x.filter(y.kind, y.d, y.e);
+        x.slices(y.across, y.down, false);
+        x.encode();
+        pokeCoefficients(x, y, c);
+        x.decode();
+        int[][] due = y.backToPicture(c);
+        for (int i = 0; i < 32; i++) {
+            same(what + " at " + i % 8 + " " + i / 8, x.decoded(i % 8, i / 8), due[i / 8][i % 8]);
         }
     }
 

@@ -492,7 +492,8 @@ public final class PromiseEdgesTest extends Scenes {
     }
 
     private static void promise14NoSuchSlice() {
-        says("The quantiser of slice s as READING finds it in the stream; -1 when there is no stream or no such slice.");
+        says("The quantiser of slice s as READING finds it in the stream;"
+            + " -1 when there is no stream or no such slice.");
         Run x = tight(100);
         same("no stream", x.index(0), -1);
         for (int across = 1; across <= 4; across++) {

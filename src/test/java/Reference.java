@@ -255,6 +255,18 @@ final class Reference {
     }
 
     int[][] backToPicture(long[][] c) {
+        long[][] a = joined(c);
+        int[][] out = new int[height][width];
+        for (int y = 0; y < height; y++) {
+            for (int x = 0; x < width; x++) {
+                out[y][x] = (int) clamp(a[y][x], -128, 127);
+            }
+        }
+        return out;
+    }
+
+    /** Back at the places (0, 0) .. (P - 1, Q - 1), before only those of the picture are kept. */
+    long[][] joined(long[][] c) {
         long[][] a = inRegion(c, 0, 0, new long[0][0]);
         int h = rows() >> d;
         for (int i = e - 1; i >= 0; i--) {
@@ -267,13 +279,7 @@ final class Reference {
             a = inRegion(a, w, h, turned(joinRows(turned(region(a, w, h)))));
             a = inRegion(a, w, h, halved(joinRows(region(a, w, h))));
         }
-        int[][] out = new int[height][width];
-        for (int y = 0; y < height; y++) {
-            for (int x = 0; x < width; x++) {
-                out[y][x] = (int) clamp(a[y][x], -128, 127);
-            }
-        }
-        return out;
+        return a;
     }
 
     static long[][] region(long[][] a, int w, int h) {

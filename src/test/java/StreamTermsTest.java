@@ -509,7 +509,8 @@ public final class StreamTermsTest extends Scenes {
     }
 
     private static void heldWithPrediction() {
-        says("but in band 0, with prediction, it is p plus the value; in any case what is less than -2^27 becomes -2^27");
+        says("but in band 0, with prediction, it is p plus the value;"
+            + " in any case what is less than -2^27 becomes -2^27");
         for (int sign = -1; sign <= 1; sign += 2) {
             Run x = row(0, 0, 0, 0, 0);
             x.slices(1, 1, true);
