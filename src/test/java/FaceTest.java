@@ -66,7 +66,10 @@ public final class FaceTest {
             int seen = f.getModifiers() & (Modifier.PUBLIC | Modifier.PRIVATE);
             check.due(f.getName(), seen, none ? Modifier.PUBLIC : Modifier.PRIVATE);
         }
+        check.due("NONE", WaveletSlices.NONE, -1000);
+        check.due("constructors", c.getDeclaredConstructors().length, 1);
         for (Constructor<?> k : c.getDeclaredConstructors()) {
+            check.yes("the constructor is public", Modifier.isPublic(k.getModifiers()));
             check.yes("constructor", Arrays.equals(k.getParameterTypes(), new Class<?>[] {int.class, int.class}));
         }
     }
